@@ -1,0 +1,166 @@
+import java.util.function.Consumer;
+
+/** Promises 27 and 28: save and restore. */
+public final class SavingTest {
+    public static void main(String[] args) {
+        everythingComesBack();
+        slotsAreTwo();
+        slotIsOverwritten();
+        slotIsKept();
+        historyComesBack();
+        rulesAndEventsComeBack();
+        exceptions();
+        Check.end("SavingTest");
+    }
+
+    /** Each setting is changed after it was saved, and must come back. */
+    private static void everythingComesBack() {
+        comesBack("setGrid", x -> x.setGrid(100, 60000));
+        comesBack("jump", x -> x.jump(-77777));
+        comesBack("connect", x -> x.connect(false));
+        comesBack("setLoad", x -> x.setLoad(333, 49000, 77));
+        comesBack("setLoop", x -> x.setLoop(999, 499));
+        comesBack("setLock", x -> x.setLock(111, 444));
+        comesBack("setWindow", x -> x.setWindow(1, 2, 44444, 55555));
+        comesBack("setPower", x -> x.setPower(7777, 4444, 3333));
+        comesBack("setDrift", x -> x.setDrift(-499, 99));
+        comesBack("addRule", x -> x.addRule(GridInverter.OVER_VOLTAGE, 0, 1));
+        comesBack("clearRules", x -> x.clearRules());
+        comesBack("stop", x -> x.stop());
+        comesBack("stop and start", SavingTest::stopAndStart);
+        comesBack("advance(1)", x -> x.advance(1));
+        comesBack("advance(100)", x -> x.advance(100));
+        comesBack("another start", SavingTest::otherRules);
+    }
+
+    private static void stopAndStart(GridInverter x) {
+        x.stop();
+        x.start();
+        x.advance(60);
+    }
+
+    private static void otherRules(GridInverter x) {
+        x.clearRules();
+        x.addRule(GridInverter.CHANGE, 60000, 1);
+        x.addRule(GridInverter.OVER_VOLTAGE, 1, 1);
+        x.advance(1500);
+    }
+
+    private static void comesBack(String call, Consumer<GridInverter> work) {
+        GridInverter untouched = Check.busy();
+        untouched.save(1);
+        GridInverter x = Check.busy();
+        x.save(1);
+        work.accept(x);
+        x.restore(1);
+        Check.due("restore after " + call, Check.wholeOf(x), Check.wholeOf(untouched));
+    }
+
+    private static void slotsAreTwo() {
+        GridInverter x = LineTest.running(1000);
+        x.save(0);
+        x.advance(9);
+        x.save(1);
+        x.advance(90);
+        x.restore(0);
+        Check.due("time of slot 0", x.measure(0), 1);
+        Check.due("energy of slot 0", x.energy(), 1000);
+        x.restore(1);
+        Check.due("time of slot 1", x.measure(0), 10);
+        Check.due("energy of slot 1", x.energy(), 10000);
+        Check.due("availability() of slot 1", x.availability(), 1.0);
+        GridInverter y = new GridInverter();
+        y.save(1);
+        Check.dueThrow("restore(0) when only 1 is used", IllegalStateException.class, () -> y.restore(0));
+        Check.dueNoThrow("restore(1)", () -> y.restore(1));
+    }
+
+    private static void slotIsOverwritten() {
+        GridInverter x = new GridInverter();
+        x.save(0);
+        x.advance(5);
+        x.save(0);
+        x.advance(5);
+        x.restore(0);
+        Check.due("what was saved last", x.measure(0), 5);
+    }
+
+    private static void slotIsKept() {
+        GridInverter x = new GridInverter();
+        x.advance(3);
+        x.save(1);
+        for (int i = 0; i < 3; i++) {
+            x.restore(1);
+            Check.due("time restored", x.measure(0), 3);
+            x.advance(20);
+            x.setGrid(0, 45000);
+            x.relockTime(4, 40);
+            Check.due("time going on", x.measure(0), 23);
+        }
+        x.restore(1);
+        x.advance(1);
+        Check.due("the grid restored", x.measure(1), 230);
+    }
+
+    /** The estimated frequency of 20 ticks earlier belongs to what is saved. */
+    private static void historyComesBack() {
+        GridInverter x = LineTest.running(1000);
+        x.addRule(GridInverter.CHANGE, 99, 10000);
+        x.setLoop(1, 500);
+        x.jump(200);
+        x.advance(1);
+        x.setGrid(230, 50100);
+        x.setLoop(1, 0);
+        x.advance(5);
+        Check.due("violations(0)", x.violations(0), 6);
+        x.save(0);
+        x.advance(60);
+        Check.due("violations(0)", x.violations(0), 0);
+        x.restore(0);
+        Check.due("violations(0) restored", x.violations(0), 6);
+        x.advance(14);
+        Check.due("violations(0) in the 20th tick", x.violations(0), 20);
+        x.advance(1);
+        Check.due("violations(0) in the 21st tick", x.violations(0), 0);
+    }
+
+    private static void rulesAndEventsComeBack() {
+        GridInverter x = LineTest.running(1000);
+        x.addRule(GridInverter.OVER_VOLTAGE, 229, 2);
+        x.advance(1);
+        x.save(0);
+        x.clearRules();
+        x.addRule(GridInverter.UNDER_VOLTAGE, 1, 1);
+        x.addRule(GridInverter.OVER_FREQUENCY, 1, 1);
+        x.advance(500);
+        x.restore(0);
+        Check.due("events()", x.events(), 1);
+        Check.due("event(0, 0)", x.event(0, 0), 1);
+        Check.due("event(0, 1)", x.event(0, 1), GridInverter.STARTED);
+        Check.due("event(1, 0)", x.event(1, 0), GridInverter.NONE);
+        Check.due("violations(0)", x.violations(0), 1);
+        Check.dueThrow("violations(1)", IndexOutOfBoundsException.class, () -> x.violations(1));
+        x.advance(1);
+        Check.due("the rule restored trips", x.event(1, 1), 0);
+        Check.due("its time", x.event(1, 0), 3);
+        Check.due("violations(0)", x.violations(0), 2);
+    }
+
+    private static void exceptions() {
+        Check.dueRange("save", 0, 1, Check::busy, (x, slot) -> x.save(slot));
+        Check.dueRange("restore", 0, 1, SavingTest::bothSaved, (x, slot) -> x.restore(slot));
+        Check.dueThrowWithoutChange("restore of nothing", IllegalStateException.class, Check::busy,
+                x -> x.restore(1));
+        Check.dueThrowWithoutChange("restore of no slot", IllegalArgumentException.class, GridInverter::new,
+                x -> x.restore(2));
+    }
+
+    private static GridInverter bothSaved() {
+        GridInverter x = Check.busy();
+        x.advance(3);
+        x.save(1);
+        x.setLoop(300, 30);
+        x.advance(3);
+        return x;
+    }
+}
