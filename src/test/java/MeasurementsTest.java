@@ -74,6 +74,8 @@ public final class MeasurementsTest {
                 Check.due(call + ", 1)", x.event(i, 1), kept ? cause : GridInverter.NONE);
             }
         }
+        Check.due("event(-1, 0) of none", new GridInverter().event(-1, 0), GridInverter.NONE);
+        Check.due("event(-1, 1) of one", withEvents(1).event(-1, 1), GridInverter.NONE);
         GridInverter x = withEvents(100);
         for (int i : new int[] {-1, 0, -40, -60, Integer.MIN_VALUE, Integer.MAX_VALUE, 100, 140}) {
             Check.due("event(" + i + ", 0)", x.event(i, 0), GridInverter.NONE);

@@ -107,6 +107,29 @@ public final class NewObjectTest {
         x.advance(1);
         // 50100 + (50002 - 50100) / 4 + (50000 - 50100) * 10 / 100
         Check.due("island of 1000 W at 50000 with quality 10", Check.measures(x, 1, 2), "[230, 50066]");
+        GridInverter y = new GridInverter();
+        y.setPower(1, 1739, 1739);
+        y.setLock(5000, 1);
+        y.advance(1);
+        y.connect(false);
+        y.advance(1);
+        // 399970 / 1000
+        Check.due("load 1000", y.measure(1), 399);
+        Check.due("no drift upwards", islandAfterError(2000), 50250);
+        Check.due("no drift downwards", islandAfterError(-2000), 49750);
+    }
+
+    /** The estimated frequency is off by half the error; the frequency of the island follows by a quarter of that. */
+    private static int islandAfterError(int by) {
+        GridInverter x = new GridInverter();
+        x.setPower(1, 1000, 1000);
+        x.setLock(5000, 1);
+        x.setLoop(1, 500);
+        x.jump(by);
+        x.advance(1);
+        x.connect(false);
+        x.advance(1);
+        return x.measure(2);
     }
 
     private static void ownState() {

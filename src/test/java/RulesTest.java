@@ -61,9 +61,15 @@ public final class RulesTest {
             Check.due("CHANGE by " + c[0], x.violations(0), c[1]);
         }
         GridInverter still = LineTest.running(500);
-        still.addRule(GridInverter.CHANGE, 0, 100);
-        still.advance(30);
-        Check.due("no change", still.violations(0), 0);
+        still.addRule(GridInverter.CHANGE, 0, 1);
+        still.advance(50);
+        Check.due("events without a change", still.events(), 1);
+        for (int by : new int[] {1, -1}) {
+            GridInverter x = movedBy(by);
+            x.addRule(GridInverter.CHANGE, 0, 100);
+            x.advance(1);
+            Check.due("CHANGE by " + by + " with the threshold 0", x.violations(0), 1);
+        }
     }
 
     /** The estimated frequency leaps by 100 in one tick and stays there: the leap is seen for 20 ticks. */
@@ -198,6 +204,14 @@ public final class RulesTest {
         Check.dueThrow("violations(1)", IndexOutOfBoundsException.class, () -> x.violations(1));
         Check.due("addRule", x.addRule(GridInverter.OVER_FREQUENCY, 70000, 10000), 1);
         Check.due("clearRules()", x.clearRules(), 2);
+        x.addRule(GridInverter.OVER_VOLTAGE, 200, 100);
+        x.advance(2);
+        Check.due("violations(0)", x.violations(0), 2);
+        x.clearRules();
+        x.addRule(GridInverter.OVER_VOLTAGE, 200, 3);
+        Check.due("violations of a rule in the place of another", x.violations(0), 0);
+        x.advance(2);
+        Check.due("state()", x.state(), GridInverter.RUNNING);
     }
 
     private static GridInverter full() {

@@ -9,6 +9,9 @@ public final class SavingTest {
         slotIsKept();
         historyComesBack();
         rulesAndEventsComeBack();
+        overwrittenEventsComeBack();
+        windowComesBack();
+        toleranceComesBack();
         exceptions();
         Check.end("SavingTest");
     }
@@ -31,6 +34,12 @@ public final class SavingTest {
         comesBack("advance(1)", x -> x.advance(1));
         comesBack("advance(100)", x -> x.advance(100));
         comesBack("another start", SavingTest::otherRules);
+        comesBack("a sag", SavingTest::sag);
+    }
+
+    private static void sag(GridInverter x) {
+        x.setGrid(10, 60000);
+        x.advance(3);
     }
 
     private static void stopAndStart(GridInverter x) {
@@ -144,6 +153,57 @@ public final class SavingTest {
         Check.due("the rule restored trips", x.event(1, 1), 0);
         Check.due("its time", x.event(1, 0), 3);
         Check.due("violations(0)", x.violations(0), 2);
+    }
+
+    private static void overwrittenEventsComeBack() {
+        GridInverter x = LineTest.running(1000);
+        x.stop();
+        x.start();
+        x.save(0);
+        x.addRule(GridInverter.OVER_VOLTAGE, 0, 1);
+        x.advance(500);
+        x.restore(0);
+        Check.due("events()", x.events(), 2);
+        Check.due("event(1, 0)", x.event(1, 0), 1);
+        Check.due("event(1, 1)", x.event(1, 1), GridInverter.BY_CALL);
+    }
+
+    /** The ready count after a tick with this voltage and an estimated frequency of 50000 + by. */
+    private static int readyAfterRestore(int voltage, int by) {
+        GridInverter x = new GridInverter();
+        x.setLock(100000, 1);
+        x.setLoop(1, 500);
+        x.setWindow(210, 250, 49500, 50500);
+        x.advance(5);
+        x.save(0);
+        x.setWindow(0, 400, 40000, 70000);
+        x.advance(4);
+        x.restore(0);
+        Check.due("the ready count restored", x.measure(8), 5);
+        x.setGrid(voltage, 50000);
+        x.jump(by * 2);
+        x.advance(1);
+        Check.due("the estimated frequency", x.measure(5), 50000 + by);
+        return x.measure(8);
+    }
+
+    private static void windowComesBack() {
+        Check.due("in the window", readyAfterRestore(230, 0), 6);
+        Check.due("at 209 V", readyAfterRestore(209, 0), 0);
+        Check.due("at 251 V", readyAfterRestore(251, 0), 0);
+        Check.due("at 49499", readyAfterRestore(230, -501), 0);
+        Check.due("at 50501", readyAfterRestore(230, 501), 0);
+    }
+
+    private static void toleranceComesBack() {
+        GridInverter x = new GridInverter();
+        x.setLock(7000, 2);
+        x.save(1);
+        x.setLock(100, 2);
+        x.restore(1);
+        x.jump(7000);
+        x.advance(1);
+        Check.due("the lock count", x.measure(7), 1);
     }
 
     private static void exceptions() {

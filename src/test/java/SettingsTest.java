@@ -186,6 +186,15 @@ public final class SettingsTest {
         y.advance(1);
         // c is 49701 + -299 * 9 / 100 = 49675, so that f becomes 50000 - 325 / 4
         Check.due("a gain below 50000", y.measure(2), 49919);
+        GridInverter z = LineTest.running(1000);
+        z.setLoop(1, 500);
+        z.setLoad(1000, 50000, 0);
+        z.setDrift(0, 100);
+        z.jump(2000);
+        z.advance(1);
+        z.connect(false);
+        z.advance(1);
+        Check.due("a gain of 100 doubles the 1000", z.measure(2), 50500);
     }
 
     private static void ranges() {

@@ -127,6 +127,10 @@ public final class WhatIfTest {
         x.setLock(5000, 1);
         Check.due("lock time 1", x.relockTime(5000, 1), 1);
         Check.due("lock time 1", x.relockTime(-5001, 1), GridInverter.NONE);
+        x.setLock(100000, 1);
+        Check.due("tolerance 100000", x.relockTime(100000, 1), 1);
+        x.setLock(100, 1);
+        Check.due("tolerance 100", x.relockTime(101, 1), GridInverter.NONE);
         x.setGrid(0, 50000);
         Check.due("without a signal", x.relockTime(0, 2000), GridInverter.NONE);
         GridInverter island = LineTest.running(1000);
