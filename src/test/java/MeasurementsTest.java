@@ -48,6 +48,14 @@ public final class MeasurementsTest {
         Check.due("availability() after a stop", x.availability(), 1.0 / 3.0);
         x.advance(4);
         Check.due("availability() of one in seven", x.availability(), 1.0 / 7.0);
+        GridInverter back = new GridInverter();
+        back.save(0);
+        back.setLock(5000, 1);
+        back.setPower(1, 1, 1);
+        back.advance(5);
+        Check.due("availability() of five in five", back.availability(), 1.0);
+        back.restore(0);
+        Check.due("availability() at time 0 again", back.availability(), 0.0);
         Check.due("availability() of all", LineTest.running(3).availability(), 1.0);
     }
 

@@ -6,6 +6,9 @@ public final class OperationTest {
         stopped();
         advance();
         lostLock();
+        lockLimits();
+        lockTimeRaisedWhileRunning();
+        inOneTickAtMostOneEvent();
         lostLockComesBeforeRules();
         restart();
         powerOfTheTickBefore();
@@ -35,6 +38,7 @@ public final class OperationTest {
         Check.due("start() while waiting", x.start(), false);
         Check.due("the ready count stays", x.measure(8), 6);
         Check.due("stop()", x.stop(), false);
+        Check.due("stop() while stopped", x.stop(), false);
         Check.due("state()", x.state(), GridInverter.STOPPED);
         Check.due("events()", x.events(), 0);
         Check.due("the ready count stays", x.measure(8), 6);
@@ -54,6 +58,7 @@ public final class OperationTest {
         x.advance(1);
         Check.due("no trip", x.events(), 2);
         Check.due("start()", x.start(), true);
+        Check.due("ready count and power after start()", Check.measures(x, 8, 9), "[0, 0]");
         Check.due("start()", x.start(), false);
         Check.due("no event", x.events(), 2);
     }
@@ -86,6 +91,52 @@ public final class OperationTest {
         Check.due("event(1, 0)", x.event(1, 0), 3);
         Check.due("event(1, 1)", x.event(1, 1), GridInverter.LOST_LOCK);
         Check.due("energy()", x.energy(), 1000);
+    }
+
+    private static void lockLimits() {
+        int[][] cases = {{4999, 1}, {5000, 1}, {5001, 0}, {-4999, 1}, {-5000, 1}, {-5001, 0}, {499999, 0}, {-500000, 0}};
+        for (int[] c : cases) {
+            GridInverter x = LineTest.running(500);
+            x.setLock(5000, 1);
+            x.jump(c[0]);
+            x.advance(1);
+            Check.due("the angle error", x.measure(6), c[0]);
+            Check.due("still running with an error of " + c[0], x.state(), c[1]);
+            Check.due("isLocked()", x.isLocked(), c[1] == 1);
+        }
+        for (int voltage : new int[] {0, 19, 20, 400}) {
+            GridInverter x = LineTest.running(500);
+            x.setGrid(voltage, 50000);
+            x.advance(1);
+            Check.due("still running at " + voltage + " V", x.state() == GridInverter.RUNNING, voltage >= 20);
+        }
+    }
+
+    private static void lockTimeRaisedWhileRunning() {
+        for (int ticks : new int[] {4, 5, 500}) {
+            GridInverter x = LineTest.running(500);
+            x.advance(2);
+            x.setLock(100000, ticks);
+            x.advance(1);
+            Check.due("the lock count", x.measure(7), 4);
+            Check.due("running with the lock time " + ticks, x.state() == GridInverter.RUNNING, ticks == 4);
+            Check.due("its events", x.events(), ticks == 4 ? 1 : 2);
+        }
+    }
+
+    /** A tick begins in one state: it starts or trips, but never both. */
+    private static void inOneTickAtMostOneEvent() {
+        GridInverter x = new GridInverter();
+        x.setPower(1, 500, 500);
+        x.setLock(5000, 1);
+        x.addRule(GridInverter.OVER_VOLTAGE, 0, 1);
+        for (int time = 1; time <= 6; time++) {
+            x.advance(1);
+            Check.due("events() at " + time, x.events(), time);
+            Check.due("state() at " + time, x.state(), time % 2 == 1 ? GridInverter.RUNNING : GridInverter.WAITING);
+            Check.due("the time of the event", x.event(time - 1, 0), time);
+        }
+        Check.due("the energy of three ticks", x.energy(), 1500);
     }
 
     private static void lostLockComesBeforeRules() {

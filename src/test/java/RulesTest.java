@@ -6,10 +6,13 @@ public final class RulesTest {
         changeKind();
         changeLooksBackTwentyTicks();
         changeBeforeTheFirstTick();
+        thresholdEnds();
+        greatestChange();
         durations();
         lowestNumberWins();
         whenCountsMove();
         addAndClear();
+        fullAgain();
         wrongArguments();
         Check.end("RulesTest");
     }
@@ -113,6 +116,61 @@ public final class RulesTest {
         Check.due("tick 21 is compared with tick 1", x.violations(0), 0);
     }
 
+    /** The violation count of a rule after a running tick with this voltage and estimated frequency. */
+    private static int violationsWith(int kind, int threshold, int voltage, int frequency) {
+        GridInverter x = movedBy(frequency - 50000);
+        x.addRule(kind, threshold, 10000);
+        x.setGrid(voltage, 50000);
+        x.advance(1);
+        Check.due("the estimated frequency", x.measure(5), frequency);
+        Check.due("state()", x.state(), GridInverter.RUNNING);
+        return x.violations(0);
+    }
+
+    private static void thresholdEnds() {
+        Check.due("20 V under 0", violationsWith(GridInverter.UNDER_VOLTAGE, 0, 20, 50000), 0);
+        Check.due("20 V under 20", violationsWith(GridInverter.UNDER_VOLTAGE, 20, 20, 50000), 0);
+        Check.due("20 V under 21", violationsWith(GridInverter.UNDER_VOLTAGE, 21, 20, 50000), 1);
+        Check.due("400 V under 70000", violationsWith(GridInverter.UNDER_VOLTAGE, 70000, 400, 50000), 1);
+        Check.due("20 V over 0", violationsWith(GridInverter.OVER_VOLTAGE, 0, 20, 50000), 1);
+        Check.due("400 V over 399", violationsWith(GridInverter.OVER_VOLTAGE, 399, 400, 50000), 1);
+        Check.due("400 V over 400", violationsWith(GridInverter.OVER_VOLTAGE, 400, 400, 50000), 0);
+        Check.due("400 V over 70000", violationsWith(GridInverter.OVER_VOLTAGE, 70000, 400, 50000), 0);
+        Check.due("40000 under 0", violationsWith(GridInverter.UNDER_FREQUENCY, 0, 230, 40000), 0);
+        Check.due("40000 under 40000", violationsWith(GridInverter.UNDER_FREQUENCY, 40000, 230, 40000), 0);
+        Check.due("40000 under 40001", violationsWith(GridInverter.UNDER_FREQUENCY, 40001, 230, 40000), 1);
+        Check.due("69999 under 70000", violationsWith(GridInverter.UNDER_FREQUENCY, 70000, 230, 69999), 1);
+        Check.due("70000 under 70000", violationsWith(GridInverter.UNDER_FREQUENCY, 70000, 230, 70000), 0);
+        Check.due("40000 over 0", violationsWith(GridInverter.OVER_FREQUENCY, 0, 230, 40000), 1);
+        Check.due("70000 over 69999", violationsWith(GridInverter.OVER_FREQUENCY, 69999, 230, 70000), 1);
+        Check.due("70000 over 70000", violationsWith(GridInverter.OVER_FREQUENCY, 70000, 230, 70000), 0);
+        Check.due("a change of 0 by 0", violationsWith(GridInverter.CHANGE, 0, 230, 50000), 0);
+        Check.due("a change of 20000 by 19999", violationsWith(GridInverter.CHANGE, 19999, 230, 70000), 1);
+        Check.due("a change of 20000 by 20000", violationsWith(GridInverter.CHANGE, 20000, 230, 70000), 0);
+        Check.due("a change of -10000 by 9999", violationsWith(GridInverter.CHANGE, 9999, 230, 40000), 1);
+        Check.due("a change of -10000 by 10000", violationsWith(GridInverter.CHANGE, 10000, 230, 40000), 0);
+    }
+
+    /** The estimated frequency is 40000 for 20 ticks and then 70000. */
+    private static void greatestChange() {
+        GridInverter x = movedBy(-10000);
+        x.setLoop(1000, 500);
+        x.advance(1);
+        x.setLoop(1000, 0);
+        x.advance(19);
+        Check.due("estimate and error", Check.measures(x, 5, 6), "[40000, 10000]");
+        x.addRule(GridInverter.CHANGE, 29999, 10000);
+        x.addRule(GridInverter.CHANGE, 30000, 10000);
+        x.addRule(GridInverter.CHANGE, 70000, 10000);
+        x.setLoop(1000, 500);
+        x.jump(50000);
+        x.advance(1);
+        Check.due("estimate and error", Check.measures(x, 5, 6), "[70000, 60000]");
+        Check.due("a change of 30000 by 29999", x.violations(0), 1);
+        Check.due("a change of 30000 by 30000", x.violations(1), 0);
+        Check.due("a change of 30000 by 70000", x.violations(2), 0);
+    }
+
     private static void durations() {
         GridInverter x = LineTest.running(500);
         x.addRule(GridInverter.OVER_VOLTAGE, 229, 1);
@@ -212,6 +270,22 @@ public final class RulesTest {
         Check.due("violations of a rule in the place of another", x.violations(0), 0);
         x.advance(2);
         Check.due("state()", x.state(), GridInverter.RUNNING);
+    }
+
+    private static void fullAgain() {
+        GridInverter x = new GridInverter();
+        for (int round = 0; round < 3; round++) {
+            Check.dueThrow("violations(0) of none", IndexOutOfBoundsException.class, () -> x.violations(0));
+            for (int i = 0; i < 8; i++) {
+                Check.due("addRule", x.addRule(i % 5, 70000, 1), i);
+                int next = i + 1;
+                Check.due("violations(" + i + ")", x.violations(i), 0);
+                Check.dueThrow("violations(" + next + ")", IndexOutOfBoundsException.class, () -> x.violations(next));
+            }
+            Check.dueThrow("a ninth rule", IllegalStateException.class, () -> x.addRule(0, 70000, 1));
+            Check.due("the eighth rule stays", x.violations(7), 0);
+            Check.due("clearRules()", x.clearRules(), 8);
+        }
     }
 
     private static GridInverter full() {

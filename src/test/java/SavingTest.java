@@ -6,6 +6,8 @@ public final class SavingTest {
         everythingComesBack();
         slotsAreTwo();
         slotIsOverwritten();
+        slotsOfEachState();
+        whatWasRestoredIsSavedAgain();
         slotIsKept();
         historyComesBack();
         rulesAndEventsComeBack();
@@ -85,13 +87,65 @@ public final class SavingTest {
     }
 
     private static void slotIsOverwritten() {
-        GridInverter x = new GridInverter();
+        for (int slot = 0; slot <= 1; slot++) {
+            int other = 1 - slot;
+            GridInverter x = new GridInverter();
+            int used = slot;
+            Check.dueThrow("restore of a slot never saved", IllegalStateException.class, () -> x.restore(used));
+            x.save(slot);
+            x.advance(5);
+            x.restore(slot);
+            Check.due("what was saved once", x.measure(0), 0);
+            x.advance(5);
+            x.save(slot);
+            x.advance(5);
+            x.restore(slot);
+            Check.due("what was saved last", x.measure(0), 5);
+            Check.dueThrow("restore of the other slot", IllegalStateException.class, () -> x.restore(other));
+            x.advance(2);
+            x.save(other);
+            x.advance(2);
+            x.restore(slot);
+            Check.due("the first slot", x.measure(0), 5);
+            x.restore(other);
+            Check.due("the other slot", x.measure(0), 7);
+        }
+    }
+
+    private static void slotsOfEachState() {
+        GridInverter x = LineTest.running(1000);
         x.save(0);
-        x.advance(5);
-        x.save(0);
-        x.advance(5);
+        x.stop();
+        x.save(1);
+        x.start();
+        Check.due("state()", x.state(), GridInverter.WAITING);
         x.restore(0);
-        Check.due("what was saved last", x.measure(0), 5);
+        Check.due("state() of slot 0", x.state() * 10 + x.events(), GridInverter.RUNNING * 10 + 1);
+        x.restore(1);
+        Check.due("state() of slot 1", x.state() * 10 + x.events(), GridInverter.STOPPED * 10 + 2);
+        Check.due("start()", x.start(), true);
+        x.save(1);
+        x.advance(1);
+        Check.due("state()", x.state(), GridInverter.RUNNING);
+        x.restore(1);
+        Check.due("state() of slot 1", x.state() * 10 + x.events(), GridInverter.WAITING * 10 + 2);
+    }
+
+    /** What is saved after a restore belongs to the slot alone, as does what stays in the first one. */
+    private static void whatWasRestoredIsSavedAgain() {
+        GridInverter x = Check.busy();
+        x.save(1);
+        x.advance(50);
+        x.restore(1);
+        x.save(0);
+        x.setPower(1, 1, 1);
+        x.clearRules();
+        x.advance(50);
+        x.restore(0);
+        GridInverter y = Check.busy();
+        y.save(0);
+        y.save(1);
+        Check.due("what was saved, restored and saved again", Check.wholeOf(x), Check.wholeOf(y));
     }
 
     private static void slotIsKept() {

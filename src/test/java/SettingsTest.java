@@ -5,9 +5,13 @@ public final class SettingsTest {
         loopLimits();
         setLock();
         setWindow();
+        windowEnds();
         setPowerWhileWaiting();
+        delayReachedOnlyWhenReady();
+        rampReachesTheRating();
         setPowerWhileRunning();
         setDrift();
+        gainIsTruncated();
         ranges();
         Check.end("SettingsTest");
     }
@@ -120,6 +124,83 @@ public final class SettingsTest {
         Check.due("the window is nothing to a running inverter", x.state(), GridInverter.RUNNING);
     }
 
+    /** The ready count of a tick at this voltage, in which the estimated frequency becomes this one. */
+    private static int readyWith(int voltage, int frequency, int... window) {
+        GridInverter x = new GridInverter();
+        x.setLock(100000, 1);
+        x.setLoop(1, 500);
+        x.setWindow(window[0], window[1], window[2], window[3]);
+        x.setGrid(voltage, 50000);
+        x.jump((frequency - 50000) * 2);
+        x.advance(1);
+        Check.due("the estimated frequency", x.measure(5), frequency);
+        return x.measure(8);
+    }
+
+    private static void windowEnds() {
+        Check.due("0 to 400 at 20 V", readyWith(20, 50000, 0, 400, 40000, 70000), 1);
+        Check.due("0 to 400 at 400 V", readyWith(400, 50000, 0, 400, 40000, 70000), 1);
+        Check.due("0 to 400 at 19 V without a lock", readyWith(19, 50000, 0, 400, 40000, 70000), 0);
+        Check.due("400 to 400 at 400 V", readyWith(400, 50000, 400, 400, 40000, 70000), 1);
+        Check.due("400 to 400 at 399 V", readyWith(399, 50000, 400, 400, 40000, 70000), 0);
+        Check.due("0 to 0 at 20 V", readyWith(20, 50000, 0, 0, 40000, 70000), 0);
+        Check.due("0 to 399 at 400 V", readyWith(400, 50000, 0, 399, 40000, 70000), 0);
+        Check.due("40000 to 70000 at 40000", readyWith(230, 40000, 0, 400, 40000, 70000), 1);
+        Check.due("40000 to 70000 at 70000", readyWith(230, 70000, 0, 400, 40000, 70000), 1);
+        Check.due("40000 to 40000 at 40000", readyWith(230, 40000, 0, 400, 40000, 40000), 1);
+        Check.due("40000 to 40000 at 40001", readyWith(230, 40001, 0, 400, 40000, 40000), 0);
+        Check.due("70000 to 70000 at 70000", readyWith(230, 70000, 0, 400, 70000, 70000), 1);
+        Check.due("70000 to 70000 at 69999", readyWith(230, 69999, 0, 400, 70000, 70000), 0);
+    }
+
+    /** A ready count beyond a lowered delay is of no use in a tick that is not ready. */
+    private static void delayReachedOnlyWhenReady() {
+        GridInverter x = new GridInverter();
+        x.setLock(5000, 1);
+        x.advance(10);
+        x.setPower(5, 10, 10);
+        x.setGrid(206, 50000);
+        x.advance(1);
+        Check.due("state()", x.state(), GridInverter.WAITING);
+        Check.due("ready count", x.measure(8), 0);
+        x.setGrid(207, 50000);
+        x.advance(4);
+        Check.due("state() after 4", x.state(), GridInverter.WAITING);
+        x.advance(1);
+        Check.due("state() after 5", x.state(), GridInverter.RUNNING);
+    }
+
+    /** The powers of five ticks from the start on. */
+    private static String powers(int ramp, int rating) {
+        GridInverter x = new GridInverter();
+        x.setLock(5000, 1);
+        x.setPower(1, ramp, rating);
+        StringBuilder seen = new StringBuilder();
+        for (int i = 0; i < 5; i++) {
+            x.advance(1);
+            seen.append(x.measure(9)).append(' ');
+        }
+        return seen.toString();
+    }
+
+    private static void rampReachesTheRating() {
+        Check.due("250 to 1000", powers(250, 1000), "250 500 750 1000 1000 ");
+        Check.due("250 to 999", powers(250, 999), "250 500 750 999 999 ");
+        Check.due("250 to 1001", powers(250, 1001), "250 500 750 1000 1001 ");
+        Check.due("1 to 1", powers(1, 1), "1 1 1 1 1 ");
+        Check.due("1 to 5000", powers(1, 5000), "1 2 3 4 5 ");
+        Check.due("5000 to 1", powers(5000, 1), "1 1 1 1 1 ");
+        Check.due("5000 to 5000", powers(5000, 5000), "5000 5000 5000 5000 5000 ");
+        Check.due("4999 to 5000", powers(4999, 5000), "4999 5000 5000 5000 5000 ");
+        GridInverter x = LineTest.running(1000);
+        for (int rating : new int[] {1000, 999, 1}) {
+            x.setPower(1, 5000, rating);
+            x.advance(1);
+            Check.due("the power with the rating " + rating, x.measure(9), rating);
+            Check.due("state()", x.state(), GridInverter.RUNNING);
+        }
+    }
+
     private static void setPowerWhileWaiting() {
         GridInverter x = new GridInverter();
         x.setLock(5000, 1);
@@ -195,6 +276,32 @@ public final class SettingsTest {
         z.connect(false);
         z.advance(1);
         Check.due("a gain of 100 doubles the 1000", z.measure(2), 50500);
+    }
+
+    /** The frequency of an island after a tick in which the estimated frequency is this one, and f is 50000. */
+    private static int driftedFrom(int estimate, int shift, int gain) {
+        GridInverter x = LineTest.running(1000);
+        x.setLoop(1, 500);
+        x.setLoad(1000, 50000, 0);
+        x.setDrift(shift, gain);
+        x.jump((estimate - 50000) * 2);
+        x.advance(1);
+        Check.due("the estimated frequency", x.measure(5), estimate);
+        x.connect(false);
+        x.advance(1);
+        return x.measure(2);
+    }
+
+    private static void gainIsTruncated() {
+        // c is w + shift + (w - 50000) * gain / 100, and f becomes 50000 + (c - 50000) / 4.
+        Check.due("-150 / 100 is -1", driftedFrom(49850, -1, 1), 49962);
+        Check.due("-150 / 100 is -1, one less", driftedFrom(49850, 0, 1), 49963);
+        Check.due("-50 / 100 is 0", driftedFrom(49950, -2, 1), 49987);
+        Check.due("-50 / 100 is 0, one more", driftedFrom(49950, -1, 1), 49988);
+        Check.due("150 / 100 is 1", driftedFrom(50150, 1, 1), 50038);
+        Check.due("150 / 100 is 1, one less", driftedFrom(50150, 0, 1), 50037);
+        Check.due("-99 / 100 is 0", driftedFrom(49999, -3, 99), 49999);
+        Check.due("-99 / 100 is 0, two more", driftedFrom(49999, -2, 99), 50000);
     }
 
     private static void ranges() {

@@ -5,7 +5,10 @@ public final class WhatIfTest {
         islandTimeEdges();
         undetectedAgainstIslandTime();
         relockTimeAgainstTheJumpItself();
+        undetectedUsesThePresentIsland();
+        undetectedEdges();
         relockTimeEdges();
+        relockTimeOfAnyState();
         nothingChanges();
         islandTimeExceptions();
         undetectedExceptions();
@@ -93,6 +96,36 @@ public final class WhatIfTest {
         Check.due("not found yet", free.undetected(1998, 1, 10, 499), 10);
     }
 
+    /** The resonance pulls the estimated frequency over the threshold, the sooner the greater the quality. */
+    private static void undetectedUsesThePresentIsland() {
+        GridInverter x = LineTest.running(1000);
+        x.addRule(GridInverter.OVER_FREQUENCY, 50100, 1);
+        int[][] islands = {{50000, 10, 3}, {50000, 100, 3}, {65000, 0, 3}, {65000, 1, 0}, {65000, 100, 0},
+            {45000, 100, 3}, {50100, 100, 3}};
+        for (int[] i : islands) {
+            x.setLoad(4000, i[0], i[1]);
+            Check.due("undetected with the resonance " + i[0] + " and the quality " + i[1],
+                    x.undetected(900, 100, 3, 20), i[2]);
+        }
+    }
+
+    private static void undetectedEdges() {
+        GridInverter x = LineTest.running(1000);
+        Check.due("ten loads up to 4991", x.undetected(491, 500, 10, 1), 10);
+        Check.due("ten loads up to 5000", x.undetected(500, 500, 10, 1), 10);
+        Check.due("the least load", x.undetected(1, 1, 1, 1), 1);
+        Check.due("the greatest load", x.undetected(5000, 1, 1, 500), 1);
+        x.addRule(GridInverter.UNDER_VOLTAGE, 400, 1);
+        // 230000 / load is at least 400 up to the load 575.
+        Check.due("none is found", x.undetected(566, 1, 10, 1), 10);
+        Check.due("one is found", x.undetected(567, 1, 10, 1), 9);
+        Check.due("nine are found", x.undetected(575, 1, 10, 1), 1);
+        Check.due("all are found", x.undetected(576, 1, 10, 1), 0);
+        Check.due("the last one is found", x.undetected(575, 500, 2, 500), 1);
+        Check.due("islandTime of the load 575", x.islandTime(575, 50000, 10, 500), GridInverter.NONE);
+        Check.due("islandTime of the load 576", x.islandTime(576, 50000, 10, 500), 1);
+    }
+
     private static int realRelockTime(int by, int limit) {
         GridInverter x = guarded();
         x.jump(by);
@@ -137,6 +170,23 @@ public final class WhatIfTest {
         island.setLock(5000, 3);
         island.connect(false);
         Check.due("an island loses its power with the lock", island.relockTime(0, 2000), GridInverter.NONE);
+    }
+
+    private static void relockTimeOfAnyState() {
+        GridInverter waiting = new GridInverter();
+        Check.due("of a new object", waiting.relockTime(0, 2000), 100);
+        waiting.setLock(100, 500);
+        Check.due("the longest lock time", waiting.relockTime(0, 500), 500);
+        Check.due("the longest lock time", waiting.relockTime(0, 499), GridInverter.NONE);
+        GridInverter stopped = stopped();
+        Check.due("of a stopped one", stopped.relockTime(0, 3), 3);
+        Check.due("it stays stopped", stopped.state(), GridInverter.STOPPED);
+        GridInverter running = LineTest.running(1000);
+        Check.due("of a running one", running.relockTime(100000, 1), 1);
+        Check.due("half a turn", running.relockTime(500000, 1), GridInverter.NONE);
+        Check.due("half a turn back", running.relockTime(-500000, 1), GridInverter.NONE);
+        Check.due("it still runs, without an event", running.state() * 10 + running.events(), 11);
+        Check.due("its angle and lock count", Check.measures(running, 0, 3, 7), "[1, 50000, 1]");
     }
 
     private static void nothingChanges() {
