@@ -256,7 +256,7 @@ public final class LineTest {
         GridInverter x = drifting(400, 0);
         x.setLoop(1, 0);
         x.setLoad(1000, 51000, 0);
-        x.setGrid(100, 60000);
+        x.setGrid(0, 60000);
         x.connect(false);
         int angle = x.measure(3);
         for (int due : new int[] {50100, 50175, 50231, 50273}) {

@@ -14,6 +14,8 @@ public final class SavingTest {
         overwrittenEventsComeBack();
         windowComesBack();
         toleranceComesBack();
+        gridOfTheNextTickComesBack();
+        restartDelayComesBack();
         exceptions();
         Check.end("SavingTest");
     }
@@ -258,6 +260,36 @@ public final class SavingTest {
         x.jump(7000);
         x.advance(1);
         Check.due("the lock count", x.measure(7), 1);
+    }
+
+    /** Between setGrid and the next tick the line differs from the grid. */
+    private static void gridOfTheNextTickComesBack() {
+        GridInverter x = new GridInverter();
+        x.setGrid(240, 50500);
+        x.save(0);
+        x.advance(1);
+        x.setGrid(250, 51000);
+        x.restore(0);
+        Check.due("the line restored", Check.measures(x, 1, 2), "[230, 50000]");
+        x.advance(1);
+        Check.due("the grid restored", Check.measures(x, 1, 2), "[240, 50500]");
+    }
+
+    private static void restartDelayComesBack() {
+        GridInverter x = new GridInverter();
+        x.setLock(5000, 1);
+        x.setPower(8, 1, 1);
+        x.advance(3);
+        x.save(1);
+        x.setPower(20, 1, 1);
+        x.advance(10);
+        x.restore(1);
+        Check.due("the ready count restored", x.measure(8), 3);
+        x.advance(4);
+        Check.due("a tick before the restored delay", x.state(), GridInverter.WAITING);
+        x.advance(1);
+        Check.due("at the restored delay", x.state(), GridInverter.RUNNING);
+        Check.due("its time", x.event(0, 0), 8);
     }
 
     private static void exceptions() {
