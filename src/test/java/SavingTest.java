@@ -14,6 +14,7 @@ public final class SavingTest {
         overwrittenEventsComeBack();
         windowComesBack();
         toleranceComesBack();
+        allRulesAndTheLatestEventsComeBack();
         gridOfTheNextTickComesBack();
         restartDelayComesBack();
         exceptions();
@@ -260,6 +261,32 @@ public final class SavingTest {
         x.jump(7000);
         x.advance(1);
         Check.due("the lock count", x.measure(7), 1);
+    }
+
+    /** Eight rules, of which the last one trips in each second tick, and 51 events. */
+    private static void allRulesAndTheLatestEventsComeBack() {
+        GridInverter x = LineTest.running(1000);
+        for (int i = 0; i < 8; i++) {
+            x.addRule(GridInverter.OVER_VOLTAGE, 100 + i, i == 7 ? 1 : 9000);
+        }
+        x.advance(50);
+        x.save(1);
+        x.clearRules();
+        x.addRule(GridInverter.OVER_VOLTAGE, 0, 1);
+        x.advance(101);
+        x.restore(1);
+        Check.due("events()", x.events(), 51);
+        Check.due("the one before the latest 40", x.event(10, 0), GridInverter.NONE);
+        for (int i = 11; i < 51; i++) {
+            Check.due("the time of event " + i, x.event(i, 0), i + 1);
+            Check.due("the cause of event " + i, x.event(i, 1), i % 2 == 0 ? GridInverter.STARTED : 7);
+        }
+        Check.due("the one after the latest", x.event(51, 1), GridInverter.NONE);
+        x.advance(1);
+        Check.due("the eighth rule trips", x.event(51, 1), 7);
+        Check.due("the first one counts", x.violations(0), 1);
+        Check.dueThrow("a ninth rule", IllegalStateException.class, () -> x.addRule(0, 0, 1));
+        Check.due("clearRules()", x.clearRules(), 8);
     }
 
     /** Between setGrid and the next tick the line differs from the grid. */

@@ -5,6 +5,7 @@ public final class WhatIfTest {
         islandTimeEdges();
         undetectedAgainstIslandTime();
         relockTimeAgainstTheJumpItself();
+        islandFoundByTheEighthRule();
         undetectedUsesThePresentIsland();
         undetectedEdges();
         relockTimeEdges();
@@ -94,6 +95,17 @@ public final class WhatIfTest {
         // 230000 / load is below 115 from the load 2001 on.
         Check.due("found in the last tick", free.undetected(1998, 1, 10, 500), 3);
         Check.due("not found yet", free.undetected(1998, 1, 10, 499), 10);
+    }
+
+    private static void islandFoundByTheEighthRule() {
+        GridInverter x = LineTest.running(1000);
+        for (int i = 0; i < 8; i++) {
+            Check.due("islandTime with " + i + " rules", x.islandTime(1000, 50000, 0, 9), GridInverter.NONE);
+            x.addRule(GridInverter.UNDER_VOLTAGE, i == 7 ? 231 : 230, i == 7 ? 4 : 1);
+        }
+        Check.due("islandTime with 8 rules", x.islandTime(1000, 50000, 0, 9), 4);
+        Check.due("undetected with 8 rules", x.undetected(999, 1, 2, 4), 0);
+        Check.due("its counts stay", x.violations(7), 0);
     }
 
     /** The resonance pulls the estimated frequency over the threshold, the sooner the greater the quality. */
