@@ -1,9 +1,10 @@
-/** The three examples of the document. */
+/** The three examples of the document, and that of README.md. */
 public final class ExamplesTest {
     public static void main(String[] args) {
         lockingAndStart();
         protectionRule();
         loopAfterJump();
+        exampleOfReadme();
         Check.end("ExamplesTest");
     }
 
@@ -58,5 +59,22 @@ public final class ExamplesTest {
         Check.due("advance(1)", x.advance(1), 3);
         Check.due("measure(6)", x.measure(6), 0);
         Check.due("measure(7)", x.measure(7), 0);
+    }
+
+    private static void exampleOfReadme() {
+        GridInverter x = new GridInverter();
+        x.setPower(5, 300, 1000);
+        x.setLock(5000, 3);
+        x.addRule(GridInverter.UNDER_VOLTAGE, 200, 3);
+        Check.due("advance(10)", x.advance(10), 10);
+        Check.due("state()", x.state(), GridInverter.RUNNING);
+        Check.due("measure(9)", x.measure(9), 1000);
+        Check.due("islandTime(1200,50000,10,100)", x.islandTime(1200, 50000, 10, 100), 3);
+        Check.due("islandTime(500,50000,10,100)", x.islandTime(500, 50000, 10, 100), GridInverter.NONE);
+        x.setGrid(150, 50000);
+        Check.due("advance(3)", x.advance(3), 13);
+        Check.due("state()", x.state(), GridInverter.WAITING);
+        Check.due("event(1,0)", x.event(1, 0), 13);
+        Check.due("event(1,1)", x.event(1, 1), 0);
     }
 }

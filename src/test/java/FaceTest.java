@@ -6,7 +6,10 @@ import java.lang.reflect.Modifier;
 import java.util.Set;
 import java.util.TreeSet;
 
-/** The public face: the document's constants, constructor and methods, and no member besides that is not private. */
+/**
+ * The public face: the document's constants, constructor and methods, and no member besides that is not private; and
+ * what the rules 1 and 11 of LANGUAGE.md say of the classes.
+ */
 public final class FaceTest {
     private static final String[] CONSTANTS = {
         "WAITING 0", "RUNNING 1", "STOPPED 2", "UNDER_VOLTAGE 0", "OVER_VOLTAGE 1", "UNDER_FREQUENCY 2",
@@ -49,7 +52,45 @@ public final class FaceTest {
         Constructor<?>[] constructors = GridInverter.class.getDeclaredConstructors();
         Check.due("constructors", constructors.length, 1);
         Check.due("constructor", constructors[0].toString(), "public GridInverter()");
+        classesInside();
+        namesOfPrivateMethods();
+        sizes(GridInverter.class);
         Check.end("FaceTest");
+    }
+
+    private static void classesInside() {
+        Class<?>[] inside = GridInverter.class.getDeclaredClasses();
+        Check.due("at most twelve classes", inside.length < 12, true);
+        for (Class<?> one : inside) {
+            int modifiers = one.getModifiers();
+            Check.due(one.getName() + " is static", Modifier.isStatic(modifiers), true);
+            boolean shown = Modifier.isPublic(modifiers) || Modifier.isProtected(modifiers);
+            Check.due(one.getName() + " is public or protected", shown, false);
+            sizes(one);
+        }
+    }
+
+    private static void namesOfPrivateMethods() {
+        Set<String> face = new TreeSet<>();
+        for (Method method : GridInverter.class.getMethods()) {
+            face.add(method.getName());
+        }
+        for (Method method : GridInverter.class.getDeclaredMethods()) {
+            if (!isSeen(method)) {
+                Check.due(method.getName() + " is a name of the face", face.contains(method.getName()), false);
+            }
+        }
+    }
+
+    private static void sizes(Class<?> one) {
+        int fields = 0;
+        for (Field field : one.getDeclaredFields()) {
+            fields += Modifier.isStatic(field.getModifiers()) ? 0 : 1;
+        }
+        Check.due(one.getName() + " has at most twenty fields", fields <= 20, true);
+        for (Method method : one.getDeclaredMethods()) {
+            Check.due(method.getName() + " has at most seven parameters", method.getParameterCount() <= 7, true);
+        }
     }
 
     private static boolean isSeen(Member member) {
